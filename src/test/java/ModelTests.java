@@ -11,24 +11,28 @@ public final class ModelTests {
     private static final int RUNS = 1500;
     private static final int CALLS = 500;
 
-    // Of each argument the least and the greatest that is drawn mostly.
+    // Of each argument the least and the greatest, or one of the beds (b), cases (w), claims (k), scholars (s),
+    // sets of cases (c), trays (t).
     private static final String[] CALLED = {
-        "tray -1 4 -1 4 -1 61", "write 0 3 0 20 -2 9", "write 0 3 0 20 -2 1", "read 0 3 -1 60", "pour -1 4 -1 20 -1 4 -1 20 -1 20",
-        "told -1 11", "bed -1 6 -1 2", "weight -1 8", "claim -1 7 -1 4", "scholar -1 4 -1 2",
-        "make 0 6", "make -1 7", "recant -1 7", "forget", "walk -1 4 -1 6", "pick -1 4", "night 0 6", "night 0 100",
-        "weed -1 6", "teach -1 7 -1 8 0 1", "weigh -1 8 0 21", "think 0 255 0 5 0 10", "rule -1 17",
-        "partOf -1 8", "couples", "parting -1 8 -1 8", "barren", "most -1 4", "first -1 4 -1 4",
-        "fewest 0 255", "fewestSet 0 255", "deep 0 255", "askDeep 0 255", "dear 0 255", "askDear 0 255",
-        "fewest 0 15", "fewestSet 0 15", "deep 0 15", "askDeep 0 15", "dear 0 15", "askDear 0 15",
-        "fits 0 3 0 4", "likely 0 3 0 4", "oddsThat 0 3 0 4 0 7", "next 0 3 0 3", "fits -1 4 -1 21",
-        "gather -1 4 -1 13", "brisk -1 4 -1 13", "game -1 5", "moveOf -1 5", "blind -1 6 -1 5 -1 5", "share -1 4",
-        "copyBeds -1 4", "live 0 9999", "live -1 10000", "lived -1 5", "lived 0 4", "mean 0 9990 1 9", "mean 9970 10001 -1 21",
-        "mark", "undo", "fault -1 2", "feed 0 9 0 9 0 9 0 9 0 9", "court -1 20", "terms -1 20"};
+        "tray t -1:4 -1:61", "tray t 0:3 0:40", "write t 0:20 -2:9", "write t 0:20 -1:1", "read t -1:60", "pour t -1:20 t -1:20 -1:20",
+        "told -1:11", "bed b -1:2", "weight w", "claim k -1:4", "claim k 3:3", "scholar s -1:2",
+        "make k", "make k", "recant k", "forget", "walk s b", "pick s", "night 0:6", "night 0:100",
+        "weed b", "teach k w 0:1", "weigh w 0:21", "think c b 0:10", "rule -1:17",
+        "partOf w", "couples", "parting w w", "barren", "most 0:3", "most -1:4", "first -1:4 -1:4", "first 1:3 0:2",
+        "fewest c", "fewestSet c", "deep c", "askDeep c", "dear c", "askDear c",
+        "fits t 0:4", "likely t 0:4", "oddsThat t 0:4 w", "next t 0:3", "fits t -1:21",
+        "gather s -1:13", "brisk s -1:13", "game -1:5", "moveOf 0:4", "moveOf -1:5", "blind b -1:5 -1:5", "share s",
+        "copyBeds t", "live 0:9999", "live -1:10000", "lived -1:5", "lived 0:4", "mean 0:9990 1:9", "mean 9970:10001 -1:21",
+        "mark", "undo", "fault -1:2", "feed 0:9 0:9 0:9 0:9 0:9"};
 
     private final Random random;
     private final Map<String, Method> real = new HashMap<>();
     private final Map<String, Method> modelled = new HashMap<>();
     private final List<String> said = new ArrayList<>();
+    private int beds;
+    private int cases;
+    private int claims;
+    private int scholars;
     private SaffronCourt x;
     private Model model;
 
@@ -45,7 +49,7 @@ public final class ModelTests {
     }
 
     private int between(int low, int high) {
-        return low + random.nextInt(high - low + 1);
+        return low + random.nextInt(Math.max(1, high - low + 1));
     }
 
     private boolean chance(int percent) {
@@ -72,22 +76,59 @@ public final class ModelTests {
         Class<?>[] types = real.get(words[0]).getParameterTypes();
         Object[] args = new Object[types.length];
         for (int i = 0; i < types.length; i++) {
-            int v = between(Integer.parseInt(words[1 + 2 * i]), Integer.parseInt(words[2 + 2 * i]));
+            int v = argument(words[i + 1]);
             if (chance(1)) {
                 v = chance(50) ? random.nextInt() : chance(50) ? Integer.MAX_VALUE : Integer.MIN_VALUE;
             }
             if (types[i] == boolean.class) {
                 args[i] = (v & 1) == 1;
             } else if (types[i] == long.class) {
-                args[i] = chance(10) ? random.nextLong() : (long) v;
+                args[i] = chance(5) ? random.nextLong() : (long) v;
             } else {
                 args[i] = v;
             }
         }
         call(words[0], args);
+        countAgain(words[0]);
+    }
+
+    private int argument(String word) {
+        switch (word) {
+            case "b": return oneOf(beds);
+            case "w": return oneOf(cases);
+            case "k": return oneOf(claims);
+            case "s": return oneOf(scholars);
+            case "c": return chance(97) ? random.nextInt(1 << cases) : between(-1, 256);
+            case "t": return oneOf(4);
+            default:
+                String[] ends = word.split(":");
+                return between(Integer.parseInt(ends[0]), Integer.parseInt(ends[1]));
+        }
+    }
+
+    private int oneOf(int many) {
+        return many > 0 && chance(95) ? random.nextInt(many) : between(-1, many);
+    }
+
+    private void countAgain(String name) throws ReflectiveOperationException {
+        if (name.equals("court") || name.equals("undo") || name.equals("think")) {
+            beds = model.told(0);
+            cases = model.told(1);
+            claims = model.told(2);
+            scholars = model.told(3);
+            call("told", 3);
+        }
+        if (name.equals("live")) {
+            for (int what = 0; what < 5; what++) {
+                call("lived", what);
+            }
+        }
     }
 
     private void text(String name, String text) throws ReflectiveOperationException {
+        // What earlier calls left on the tape would come ahead of the text: a fault empties it.
+        call("feed", 0, 0, 0, 0, 0);
+        call("terms", 1);
         byte[] bytes = text.getBytes(StandardCharsets.ISO_8859_1);
         for (int at = 0; at < bytes.length && at < 900; at += 20) {
             Object[] ints = new Object[5];
@@ -104,6 +145,7 @@ public final class ModelTests {
         call(name, Math.min(900, bytes.length));
         call("fault", 0);
         call("fault", 1);
+        countAgain(name);
     }
 
     private static String named(char sort, int i) {
@@ -113,9 +155,9 @@ public final class ModelTests {
     private String courtText() {
         List<String> t = new ArrayList<>();
         int beds = between(chance(90) ? 1 : 0, chance(3) ? 7 : 6);
-        int cases = between(chance(90) ? 1 : 0, chance(3) ? 9 : 8);
-        int claims = beds == 0 ? 0 : between(0, chance(3) ? 8 : 7);
-        int scholars = beds == 0 ? 0 : between(chance(80) ? 1 : 0, chance(3) ? 5 : 4);
+        int cases = between(chance(90) ? 2 : 0, chance(3) ? 9 : 8);
+        int claims = beds == 0 ? 0 : between(chance(90) ? 3 : 0, chance(3) ? 8 : 7);
+        int scholars = beds == 0 ? 0 : between(chance(90) ? 2 : 0, chance(3) ? 5 : 4);
         if (chance(50)) {
             t.add("odds " + between(0, 16) + ";");
         }
@@ -142,9 +184,9 @@ public final class ModelTests {
     }
 
     private String stepText(int depth) {
-        String scholar = named('s', between(0, chance(95) ? 1 : 4));
-        String claim = named('k', between(0, chance(95) ? 2 : 7));
-        int bed = between(0, chance(95) ? 1 : 6);
+        String scholar = named('s', Math.max(0, chance(99) ? between(0, scholars - 1) : scholars));
+        String claim = named('k', Math.max(0, chance(99) ? between(0, claims - 1) : claims));
+        int bed = Math.max(0, chance(99) ? between(0, beds - 1) : beds);
         switch (between(0, depth < (chance(95) ? 3 : 4) ? 9 : 5)) {
             case 0: return "make " + claim + ";";
             case 1: return "walk " + scholar + " " + bed + ";";
@@ -191,16 +233,16 @@ public final class ModelTests {
         x = new SaffronCourt();
         model = new Model();
         said.clear();
+        text("court", courtText());
+        text("terms", stepsText(0));
         while (said.size() < CALLS - 60) {
-            if (said.isEmpty() || chance(1)) {
-                call("feed", 0, 0, 0, 0, 0);
-                call("court", 0);
-                String text = courtText();
-                text("court", chance(25) ? marred(text) : text);
+            if (chance(1)) {
+                text("court", chance(50) ? marred(courtText()) : courtText());
             } else if (chance(2)) {
-                call("terms", 0);
-                String text = stepsText(0);
-                text("terms", chance(25) ? marred(text) : text);
+                text("terms", chance(25) ? marred(stepsText(0)) : stepsText(0));
+            } else if (chance(1)) {
+                call(chance(50) ? "court" : "terms", between(-1, 40));
+                countAgain("court");
             } else {
                 drawnCall();
             }

@@ -733,20 +733,24 @@ public final class PromiseTests {
         Check.refused("n -1", x, x.game(-1), 1);
         Check.refused("n 0", x, x.moveOf(0), 1);
         Check.refused("n 5", x, x.moveOf(5), 1);
-        // To make c helps the other one more than the first.
         SaffronCourt y = Check.courtOf("bed;case a weight 1;case b weight 1;case c weight 1;case d weight 1;"
             + "claim k at 0 of a;claim l at 0 of a b;");
         Check.due("one", y, y.game(1), 6, 0);
         Check.due("move", y, y.moveOf(1), 1, 0);
         Check.due("two", y, y.game(2), 3, 0);
+        Check.due("move", y, y.moveOf(2), 1, 0);
+        Check.due("three", y, y.game(3), 3, 0);
+        Check.due("four", y, y.game(4), 3, 0);
+        Check.due("nothing changes", y, y.told(6), 0, 0);
         y.make(0);
         y.make(1);
         Check.due("nothing is left", y, y.game(4), 0, 0);
         Check.refused("none", y, y.moveOf(4), 6);
-        SaffronCourt z = Check.courtOf("bed;" + times("case # weight 1;", 5)
-            + "claim k at 0 of a;claim l at 0 of a b c;claim m at 0 of a d;");
-        Check.due("z 3", z, z.game(3), z.game(3), 0);
-        Check.due("nothing changes", z, z.told(6), 0, 0);
+        SaffronCourt z = Check.courtOf("bed;case a weight 1;claim k at 0 of a;claim l at 0 of;");
+        Check.due("for nothing", z, z.game(1), 0, 0);
+        Check.due("none comes last", z, z.moveOf(1), 0, 0);
+        z.make(0);
+        Check.due("none comes last", z, z.moveOf(4), 1, 0);
     }
 
     private static void promise49And50() {
