@@ -184,6 +184,7 @@ public final class PromiseTests {
         Check.due("no blanks between", x, Check.court(x, "odds0;bed crocus1sham2;case a weight20;claim b at0cost9of a;"), 1, 0);
         Check.due("shams", x, x.told(8), 2, 0);
         Check.due("cost", x, x.claim(0, 1), 9, 0);
+        Check.due("0s told", x, Check.court(x, "odds 0;bed crocus 0 sham 0;scholar zaz at 0 gold 0;"), 0, 0);
         Check.due("names of 8 letters", x, Check.court(x, "bed;scholar abcdefgh at 0;scholar abcdefgi at 0;"), 0, 0);
         Check.due("two scholars", x, x.told(3), 2, 0);
         Check.due("cases told once in each claim", x,
@@ -207,6 +208,8 @@ public final class PromiseTests {
         Check.courtFault("bed", 2, 3);
         Check.courtFault("bed;;", 2, 4);
         Check.courtFault("bed sham 1 crocus 1;", 2, 11);
+        Check.courtFault("bed sham;", 2, 8);
+        Check.courtFault("case z weight 1;case zz weight 1;case zz", 3, 38);
         Check.courtFault("case bed weight 1;", 2, 5);
         Check.courtFault("case stop weight 1;", 2, 5);
         Check.courtFault("case made weight 1;", 2, 5);
@@ -260,6 +263,8 @@ public final class PromiseTests {
             + "when crocus 2<9999;end;when gold una>0;end;when gold udo=3;end;"), 12, 0);
         Check.refused("a fault leaves the old terms", y, Check.terms(y, "pick"), 9);
         Check.due("old terms", y, y.live(0) > 6 ? 1 : 0, 1, 0);
+        Check.refused("a fault within loops", y, Check.terms(y, "loop 2;loop 2;"), 9);
+        Check.due("leaves no loops", y, Check.terms(y, "loop 1;loop 1;night 1;end;end;when crocus 0>0;end;"), 4, 0);
         Check.due("30 steps", y, Check.terms(y, times("forget;", 30)), 30, 0);
         Check.due("three within each other", y, Check.terms(y, "loop 1;loop 1;when made ab;stop;end;end;end;"), 4, 0);
     }
@@ -392,6 +397,7 @@ public final class PromiseTests {
         Check.refused("claim -1", x, x.recant(-1), 1);
         Check.refused("it is not made", x, x.recant(1), 7);
         Check.due("recant", x, x.recant(2), 2, 0);
+        Check.due("the others are made", x, x.told(6), 9, 0);
         Check.due("crocuses stay", x, x.bed(0, 0), 8, 0);
         Check.due("forget", x, x.forget(), 2, 0);
         Check.due("none made", x, x.told(6), 0, 0);
@@ -494,6 +500,8 @@ public final class PromiseTests {
         Check.refused("weight 21", x, x.weigh(0, 21), 1);
         Check.due("what it was", x, x.weigh(2, 20), 3, 0);
         Check.due("from now on", x, x.weight(2), 20, 0);
+        Check.due("what it was", x, x.weigh(2, 1), 20, 0);
+        Check.due("from now on", x, x.weight(2), 1, 0);
 
         Check.refused("no such case", x, x.think(16, 0, 1), 1);
         Check.refused("below 0", x, x.think(-1, 0, 1), 1);
@@ -507,6 +515,8 @@ public final class PromiseTests {
         Check.due("not made", x, x.told(6), 1, 0);
         Check.due("of none", x, x.think(0, 0, 1), 5, 0);
         Check.due("seventh", x, x.think(1, 0, 1), 6, 0);
+        Check.refused("what was thought has no name", x, Check.terms(x, "make a;"), 9);
+        Check.due("what was thought has no name", x.fault(0), 3);
         Check.refused("eighth", x, x.think(1, 0, 1), 4);
         Check.refused("1 ahead of 4", x, x.think(1, 0, 0), 1);
         Check.due("seven", x, x.told(2), 7, 0);
@@ -535,6 +545,12 @@ public final class PromiseTests {
         x.make(0);
         Check.due("parts", x, x.told(10), 4, 0);
         Check.due("barren are not those made", x, x.barren(), 8, 0);
+        x.recant(0);
+        Check.done("true of the same as what is made", x, x.teach(0, 1, false));
+        Check.done("true of the same as what is made", x, x.teach(0, 2, true));
+        Check.due("barren are the first and the last", x, x.barren(), 9, 0);
+        Check.done("as it was", x, x.teach(0, 1, true));
+        Check.done("as it was", x, x.teach(0, 2, false));
         x.forget();
         x.make(3);
         Check.due("none barren", x, x.barren(), 0, 0);
@@ -594,7 +610,32 @@ public final class PromiseTests {
         Check.due("these by it", y, y.fewestSet(5), 1, 0);
     }
 
+    /** Eight cases, of seven of which one claim each is true: each is parted by its own claim alone. */
+    private static void wholeCourt() {
+        StringBuilder text = new StringBuilder("bed;" + times("case # weight 1;", 8));
+        for (char c = 'a'; c < 'h'; c++) {
+            text.append("claim k").append(c).append(" at 0 of ").append(c).append(";");
+        }
+        SaffronCourt x = Check.courtOf(text.toString());
+        Check.due("all seven", x, x.fewest(255), 7, 0);
+        Check.due("all seven", x, x.fewestSet(255), 127, 0);
+        Check.due("one behind the other", x, x.deep(255), 7, 0);
+        Check.due("dear", x, x.dear(255), 8 + 7 + 6 + 5 + 4 + 3 + 2, 0);
+        Check.due("couples", x, x.couples(), 28, 0);
+        Check.due("most", x, x.most(3), 9, 0);
+        Check.due("game", x, x.game(4), 0, 0);
+        Check.due("game", x, x.game(3), 3, 0);
+        for (int claim = 0; claim < 7; claim++) {
+            Check.due("make", x, x.make(claim), 3, 0);
+        }
+        Check.due("parts", x, x.told(10), 8, 0);
+        Check.due("couples", x, x.couples(), 0, 0);
+        Check.due("nothing more", x, x.most(3), 0, 0);
+    }
+
     private static void promise37To40() {
+        Check.due("ask at once", small().askDeep(15), 0);
+        Check.due("ask at once", small().askDear(15), 0);
         SaffronCourt x = small();
         Check.due("deep", x, x.deep(15), 2, 0);
         Check.due("ask", x, x.askDeep(15), 0, 0);
@@ -656,6 +697,11 @@ public final class PromiseTests {
         Check.fraction("stays", x, 1, 1);
         x.weigh(0, 2);
         Check.due("likely, the first", x, x.likely(0, 1), 0, 0);
+        tell(x, 0, 1, 1, 1, 2, 1, 3, 0);
+        Check.due("four twos", x, x.fits(0, 4), 1, 0);
+        tell(x, 3, 0, 0, 0, 1, 0);
+        Check.due("three twos", x, x.fits(0, 3), 8, 0);
+        Check.due("two twos", x, x.fits(0, 2), 12, 0);
         hindered(x);
         SaffronCourt y = Check.courtOf("bed;case a weight 1;case b weight 1;claim c at 0 of a b;");
         y.tray(0, 0, 0);
@@ -746,6 +792,7 @@ public final class PromiseTests {
         y.make(1);
         Check.due("nothing is left", y, y.game(4), 0, 0);
         Check.refused("none", y, y.moveOf(4), 6);
+        Check.due("move at once", Check.courtOf("bed;case a weight 1;case b weight 1;claim k at 0 of;claim l at 0 of a;").moveOf(1), 1);
         SaffronCourt z = Check.courtOf("bed;case a weight 1;claim k at 0 of a;claim l at 0 of;");
         Check.due("for nothing", z, z.game(1), 0, 0);
         Check.due("none comes last", z, z.moveOf(1), 0, 0);
@@ -1005,6 +1052,7 @@ public final class PromiseTests {
         promise29To32();
         promise33And34();
         promise35And36();
+        wholeCourt();
         promise37To40();
         promise41To44();
         promise45And46();
