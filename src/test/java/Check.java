@@ -90,6 +90,19 @@ final class Check {
         due("place in: " + text, x.fault(1), place);
     }
 
+    static int wrong() {
+        return wrong;
+    }
+
+    /** A text so many times, a letter more in place of each #. */
+    static String times(String text, int many) {
+        StringBuilder all = new StringBuilder();
+        for (int i = 0; i < many; i++) {
+            all.append(text.replace("#", String.valueOf((char) ('a' + i))));
+        }
+        return all.toString();
+    }
+
     static void end() {
         System.out.println(asked + " answers asked, " + wrong + " not as due");
         if (wrong != 0) {

@@ -12,14 +12,6 @@ public final class PromiseTests {
         return Check.courtOf(SMALL);
     }
 
-    private static String times(String text, int many) {
-        StringBuilder all = new StringBuilder();
-        for (int i = 0; i < many; i++) {
-            all.append(text.replace("#", String.valueOf((char) ('a' + i))));
-        }
-        return all.toString();
-    }
-
     private static void promise01() {
         SaffronCourt x = new SaffronCourt();
         Check.due("new status", x.status(), 0);
@@ -189,8 +181,8 @@ public final class PromiseTests {
         Check.due("two scholars", x, x.told(3), 2, 0);
         Check.due("cases told once in each claim", x,
             Check.court(x, "bed;case a weight 1;claim b at 0 of a;claim c at 0 of a;"), 2, 0);
-        Check.due("full", x, Check.court(x, times("bed;", 6) + times("case c# weight 1;", 8)
-            + times("claim d# at 5 of;", 7) + times("scholar e# at 5;", 4)), 7, 0);
+        Check.due("full", x, Check.court(x, Check.times("bed;", 6) + Check.times("case c# weight 1;", 8)
+            + Check.times("claim d# at 5 of;", 7) + Check.times("scholar e# at 5;", 4)), 7, 0);
     }
 
     private static void courtFaults() {
@@ -240,17 +232,17 @@ public final class PromiseTests {
         Check.courtFault("bed;scholar a at 0 gold 1000;", 4, 24);
         Check.courtFault("odds 1;bed;odds 99;", 5, 11);
         Check.courtFault("bed;case a weight 1;claim b at 0 of a a;", 5, 38);
-        Check.courtFault(times("bed;", 6) + " bed 1", 6, 25);
-        Check.courtFault(times("case # weight 1;", 8) + "case", 6, 128);
-        Check.courtFault("bed;" + times("claim # at 0 of;", 7) + "claim", 6, 116);
-        Check.courtFault("bed;" + times("scholar # at 0;", 4) + "scholar", 6, 64);
+        Check.courtFault(Check.times("bed;", 6) + " bed 1", 6, 25);
+        Check.courtFault(Check.times("case # weight 1;", 8) + "case", 6, 128);
+        Check.courtFault("bed;" + Check.times("claim # at 0 of;", 7) + "claim", 6, 116);
+        Check.courtFault("bed;" + Check.times("scholar # at 0;", 4) + "scholar", 6, 64);
     }
 
     private static void promise11() {
         SaffronCourt x = small();
         Check.refused("n below 0", x, x.terms(-1), 1);
         Check.refused("more than there is", x, x.terms(1), 1);
-        int length = Check.feed(x, times(" ", 301));
+        int length = Check.feed(x, Check.times(" ", 301));
         Check.refused("above 300", x, x.terms(length), 1);
         Check.due("300", x, x.terms(300), 0, 0);
         Check.due("the tape is empty then", x.feed(0, 0, 0, 0, 0), 20);
@@ -265,7 +257,7 @@ public final class PromiseTests {
         Check.due("old terms", y, y.live(0) > 6 ? 1 : 0, 1, 0);
         Check.refused("a fault within loops", y, Check.terms(y, "loop 2;loop 2;"), 9);
         Check.due("leaves no loops", y, Check.terms(y, "loop 1;loop 1;night 1;end;end;when crocus 0>0;end;"), 4, 0);
-        Check.due("30 steps", y, Check.terms(y, times("forget;", 30)), 30, 0);
+        Check.due("30 steps", y, Check.terms(y, Check.times("forget;", 30)), 30, 0);
         Check.due("three within each other", y, Check.terms(y, "loop 1;loop 1;when made ab;stop;end;end;end;"), 4, 0);
     }
 
@@ -302,10 +294,10 @@ public final class PromiseTests {
         Check.termsFault(SMALL, "loop 0;end;", 4, 5);
         Check.termsFault(SMALL, "loop 100;end;", 4, 5);
         Check.termsFault(SMALL, "when crocus 3<1;end;", 4, 12);
-        Check.termsFault(SMALL, times("any;", 30) + "any", 6, 120);
-        Check.termsFault(SMALL, times("any;", 30) + "x", 2, 120);
-        Check.termsFault(SMALL, times("loop 1;end;", 15) + times("any;", 15) + "\nloop", 6, 226);
-        Check.termsFault(SMALL, "loop 1;loop 1;loop 1;" + times("any;", 27) + "loop", 6, 129);
+        Check.termsFault(SMALL, Check.times("any;", 30) + "any", 6, 120);
+        Check.termsFault(SMALL, Check.times("any;", 30) + "x", 2, 120);
+        Check.termsFault(SMALL, Check.times("loop 1;end;", 15) + Check.times("any;", 15) + "\nloop", 6, 226);
+        Check.termsFault(SMALL, "loop 1;loop 1;loop 1;" + Check.times("any;", 27) + "loop", 6, 129);
         Check.termsFault(SMALL, "loop 1;loop 1;loop 1;loop", 7, 21);
         Check.termsFault(SMALL, "loop 1;when made ab;loop 1;when", 7, 27);
     }
@@ -407,7 +399,7 @@ public final class PromiseTests {
     /** BEDS and GOLD have 9,999 at most; what is YIELDED and PICKED is told all the same. */
     private static void highest() {
         SaffronCourt x = Check.courtOf("bed crocus 99;scholar s at 0 gold 999;"
-            + times("case c# weight 1;", 8) + "claim k at 0 of ca cb cc cd;");
+            + Check.times("case c# weight 1;", 8) + "claim k at 0 of ca cb cc cd;");
         Check.terms(x, "loop 99;make k;forget;end;");
         for (int i = 0; i < 8; i++) {
             Check.due("199 steps", x, x.live(i), 199, 0);
@@ -612,7 +604,7 @@ public final class PromiseTests {
 
     /** Eight cases, of seven of which one claim each is true: each is parted by its own claim alone. */
     private static void wholeCourt() {
-        StringBuilder text = new StringBuilder("bed;" + times("case # weight 1;", 8));
+        StringBuilder text = new StringBuilder("bed;" + Check.times("case # weight 1;", 8));
         for (char c = 'a'; c < 'h'; c++) {
             text.append("claim k").append(c).append(" at 0 of ").append(c).append(";");
         }
