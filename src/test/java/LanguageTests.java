@@ -75,6 +75,11 @@ public final class LanguageTests {
                 names.add(m.getName());
             }
         }
+        for (Method m : SaffronCourt.class.getDeclaredMethods()) {
+            boolean isFace = Modifier.isPublic(m.getModifiers());
+            Check.due(m + " is of the face or has a name of its own", isFace || !names.contains(m.getName()), true);
+            Check.due(m + " has few parameters", m.getParameterCount() <= MOST_PARAMETERS, true);
+        }
         Class<?>[] inside = SaffronCourt.class.getDeclaredClasses();
         Check.due("few classes", inside.length + 1 <= MOST_CLASSES, true);
         fields(SaffronCourt.class);
